@@ -296,12 +296,11 @@ public final class PathSolver {
         }
 
         static long moved(int operation, int width, long x, long y) {
-            long places = Width.readPlain(width, y);
-            // Of width 64, places from 2^63 on are below 0 in Java.
-            if (places < 0 || places >= width) {
+            // Below 0 stands for 2^(width - 1) places or more, and these are width or more.
+            if (y < 0 || y >= width) {
                 return operation == SIGNED_RIGHT && x < 0 ? -1 : 0;
             }
-            int distance = (int) places;
+            int distance = (int) y;
             switch (operation) {
                 case LEFT: return Width.readSigned(width, x << distance);
                 case RIGHT: return Width.readSigned(width, Width.readPlain(width, x) >>> distance);

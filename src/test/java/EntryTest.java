@@ -69,6 +69,11 @@ public final class EntryTest {
         x.entry(1, 1, 8);
         due.is("search(1)", x.search(1), 0);
         due.is("model(0)", x.model(0), 3);
+        due.is("check with entry 0", x.check(), 1);
+        due.is("model(0)", x.model(0), 0);
+        x.entry(1, 0, 7);
+        due.is("check without entry 0", x.check(), 1);
+        due.is("model(0)", x.model(0), 1);
     }
 
     private static void constantsStay(Due due) {

@@ -5,6 +5,7 @@ public final class FlipTest {
     public static void main(String[] args) {
         placesThatAreNone();
         flips();
+        flipsOfTenBits();
         noLeavesTheModel();
         laterConditionsDoNotCount();
         searches();
@@ -48,6 +49,27 @@ public final class FlipTest {
         DUE.is("check()", x.check(), 1);
         DUE.is("model(0)", x.model(0), 5);
         DUE.is("follows()", x.follows(), 3);
+    }
+
+    /** Of all 1024 assignments of ten bits, any one may be the first. */
+    private static void flipsOfTenBits() {
+        for (int goal = 0; goal < 1024; goal += 31) {
+            PathSolver x = new PathSolver();
+            int v = x.variable(7, false);
+            int w = x.variable(3, false);
+            int same = x.term(13, v, x.constant(8, goal >> 3), 0);
+            int alike = x.term(13, w, x.constant(8, goal & 7), 0);
+            x.take(same);
+            x.take(x.term(0, alike, 0, 0));
+            DUE.is("flip(1) for " + goal, x.flip(1), 1);
+            DUE.is("model(0) for " + goal, x.model(0), goal >> 3);
+            DUE.is("model(1) for " + goal, x.model(1), goal & 7);
+            x.back();
+            x.take(alike);
+            DUE.is("check() for " + goal, x.check(), 1);
+            DUE.is("model(0) for " + goal, x.model(0), goal >> 3);
+            DUE.is("model(1) for " + goal, x.model(1), goal & 7);
+        }
     }
 
     private static void noLeavesTheModel() {

@@ -100,6 +100,11 @@ public final class TermMakingTest {
         DUE.is("a is 1", x.term(16, x.constant(1, 1), v, w), v);
         DUE.is("a is 0", x.term(16, x.constant(1, 0), v, w), w);
         DUE.is("b, c are the same and a is a constant", x.term(16, x.constant(1, 0), w, w), w);
+        int five = x.constant(8, 5);
+        DUE.is("a is 1, b a constant", x.term(16, x.constant(1, 1), five, w), five);
+        DUE.is("a is 0, b a constant", x.term(16, x.constant(1, 0), five, w), w);
+        DUE.is("a is 1, c a constant", x.term(16, x.constant(1, 1), w, five), w);
+        DUE.is("a is 0, c a constant", x.term(16, x.constant(1, 0), w, five), five);
         int choice = x.term(16, bit, v, w);
         DUE.is("a choice that is open", x.operation(choice), 16);
         DUE.is("a and b the same do not settle it", x.operation(x.term(16, bit, bit, other)), 16);
