@@ -11,7 +11,6 @@ public final class TermRefusalTest {
 
     public static void main(String[] args) {
         TermRefusalTest test = new TermRefusalTest();
-        test.prepare();
         test.operations();
         test.operandsThatAreNoTerms();
         test.widthsOfTwo();
@@ -23,6 +22,7 @@ public final class TermRefusalTest {
         test.due.end();
     }
 
+    /** A new object for each group of calls: none may get more than 512. */
     private void prepare() {
         x = new PathSolver();
         one[1] = x.variable(5, false);
@@ -36,6 +36,7 @@ public final class TermRefusalTest {
     }
 
     private void operations() {
+        prepare();
         int[] wrong = {-1, 21, 22, 23, 100, Integer.MIN_VALUE, Integer.MAX_VALUE};
         for (int operation : wrong) {
             refused(operation, one[1], one[1], one[1]);
@@ -44,6 +45,7 @@ public final class TermRefusalTest {
     }
 
     private void operandsThatAreNoTerms() {
+        prepare();
         for (int none : NO_TERMS) {
             for (int operation = 0; operation <= 20; operation++) {
                 refused(operation, none, fittingB(operation), one[1]);
@@ -71,6 +73,7 @@ public final class TermRefusalTest {
     }
 
     private void widthsOfTwo() {
+        prepare();
         for (int operation = 2; operation <= 15; operation++) {
             for (int i = 0; i < 5; i++) {
                 for (int k = 0; k < 5; k++) {
@@ -92,6 +95,7 @@ public final class TermRefusalTest {
     }
 
     private void choices() {
+        prepare();
         for (int i = 0; i < 5; i++) {
             for (int k = 0; k < 5; k++) {
                 if (i == k) {
@@ -108,6 +112,7 @@ public final class TermRefusalTest {
     }
 
     private void newWidths() {
+        prepare();
         int[] wrong = {-1, 0, 2, 7, 9, 24, 63, 65, 128, Integer.MIN_VALUE, Integer.MAX_VALUE};
         for (int i = 0; i < 5; i++) {
             for (int operation = 17; operation <= 19; operation++) {
@@ -127,6 +132,7 @@ public final class TermRefusalTest {
     }
 
     private void tables() {
+        prepare();
         int[] wrong = {-1, 2, 8, Integer.MIN_VALUE, Integer.MAX_VALUE};
         for (int table : wrong) {
             refused(20, one[1], table, 0);

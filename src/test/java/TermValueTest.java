@@ -57,68 +57,15 @@ public final class TermValueTest {
         {20, 8, 3, 1, -53}, {20, 8, -128, 1, -56}, {20, 8, -3, 1, -51}};
 
     public static void main(String[] args) {
+        OperationCases cases = new OperationCases(DUE);
         for (long[] row : OF_TWO) {
-            ofConstants(row, true);
-            ofVariables(row, true);
+            cases.ofTwo(row);
         }
         for (long[] row : OF_ONE) {
-            ofConstants(row, false);
-            ofVariables(row, false);
+            cases.ofOne(row);
         }
         choices();
         DUE.end();
-    }
-
-    private static PathSolver withTables() {
-        PathSolver x = new PathSolver();
-        for (int i = 0; i < 8; i++) {
-            x.entry(0, i, 100 + i);
-            x.entry(1, i, 200 + i);
-        }
-        return x;
-    }
-
-    private static void ofConstants(long[] row, boolean two) {
-        PathSolver x = withTables();
-        int width = (int) row[1];
-        int a = x.constant(width, row[2]);
-        int b = two ? x.constant(width, row[3]) : (int) row[3];
-        int made = x.term((int) row[0], a, b, 0);
-        x.check();
-        DUE.is("operation of " + text(row), x.operation(made), 21);
-        DUE.is("width of " + text(row), x.width(made), widthOfResult(row));
-        DUE.is("constants " + text(row), x.value(made), row[4]);
-    }
-
-    /** XOR with a variable that is 0 in the first model makes terms that are no constants. */
-    private static void ofVariables(long[] row, boolean two) {
-        PathSolver x = withTables();
-        int width = (int) row[1];
-        int a = hidden(x, x.variable(1, false), width, row[2]);
-        int b = two ? hidden(x, x.variable(1, false), width, row[3]) : (int) row[3];
-        int made = x.term((int) row[0], a, b, 0);
-        x.check();
-        DUE.is("operation of variables " + text(row), x.operation(made), row[0]);
-        DUE.is("width of variables " + text(row), x.width(made), widthOfResult(row));
-        DUE.is("variables " + text(row), x.value(made), row[4]);
-    }
-
-    private static int hidden(PathSolver x, int v, int width, long value) {
-        int wide = v;
-        if (width != 8) {
-            wide = x.term(width == 1 ? 19 : 17, v, width, 0);
-        }
-        if (value == 0) {
-            return wide;
-        }
-        return x.term(4, wide, x.constant(width, value), 0);
-    }
-
-    private static int widthOfResult(long[] row) {
-        if (row[0] >= 13 && row[0] <= 15) {
-            return 1;
-        }
-        return row[0] >= 17 && row[0] <= 19 ? (int) row[3] : (int) row[1];
     }
 
     private static void choices() {
@@ -136,9 +83,5 @@ public final class TermValueTest {
             x.flip(0);
             DUE.is("choice with bit 0, width " + width, x.value(choice), 0);
         }
-    }
-
-    private static String text(long[] row) {
-        return "of " + row[0] + " width " + row[1] + ": " + row[2] + ", " + row[3];
     }
 }
