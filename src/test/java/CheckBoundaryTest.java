@@ -11,6 +11,7 @@ public final class CheckBoundaryTest {
         noLeavesTheModel();
         noLeavesNoModel();
         sixteenConditions();
+        oneConditionMore();
         DUE.end();
     }
 
@@ -155,5 +156,28 @@ public final class CheckBoundaryTest {
             x.take(x.term(13, 0, x.constant(8, 0), 0));
             DUE.is("check() with v is 0 at the end", x.check(), 0);
         }
+    }
+
+    /** What was found out about conditions stays right when others join them. */
+    private static void oneConditionMore() {
+        DUE.by("all CONDITIONS asked for hold");
+        PathSolver x = new PathSolver();
+        x.variable(8, false);
+        int[] above = {3, 100, 50};
+        for (int number : above) {
+            x.take(x.term(14, x.constant(8, number), 0, 0));
+        }
+        DUE.is("check()", x.check(), 1);
+        DUE.is("model(0)", x.model(0), 101);
+        x.take(x.term(0, x.term(19, 0, 1, 0), 0, 0));
+        DUE.is("check() with one more", x.check(), 1);
+        DUE.is("model(0)", x.model(0), 102);
+        x.back();
+        DUE.is("check() with one less", x.check(), 1);
+        DUE.is("model(0)", x.model(0), 101);
+        x.back();
+        x.back();
+        DUE.is("check() with the first", x.check(), 1);
+        DUE.is("model(0)", x.model(0), 4);
     }
 }

@@ -8,6 +8,7 @@ public final class FlipBoundaryTest {
         placesOfAPath();
         onlyThoseBefore();
         theOneAtPlaceDoesNot();
+        justOneChoice();
         noLeavesTheModel();
         greatestPlaceBelowTheLimit();
         placesThatCanNotBe();
@@ -83,6 +84,22 @@ public final class FlipBoundaryTest {
         DUE.is("check() of it and its NOT", x.check(), 0);
         DUE.is("flip(1) of its NOT", x.flip(1), 1);
         DUE.is("value of it", x.value(odd), -1);
+    }
+
+    /** Every choice of values of ten bits can be the only one that leaves the path. */
+    private static void justOneChoice() {
+        DUE.by("flip: YES, and THE MODEL is set");
+        for (int choice = 0; choice < 1024; choice++) {
+            PathSolver x = new PathSolver();
+            x.variable(3, false);
+            x.variable(7, false);
+            int first = x.term(13, 0, x.constant(8, choice >> 7), 0);
+            int second = x.term(13, 1, x.constant(8, choice & 127), 0);
+            x.take(x.term(0, x.term(2, first, second, 0), 0, 0));
+            DUE.is("flip(0) for " + choice, x.flip(0), 1);
+            DUE.is("model(0)", x.model(0), choice >> 7);
+            DUE.is("model(1)", x.model(1), choice & 127);
+        }
     }
 
     private static void noLeavesTheModel() {

@@ -5,6 +5,7 @@ public final class MakingBoundaryTest {
 
     public static void main(String[] args) {
         allOperandsOrAllButOne();
+        choicesOfConstantsButOne();
         entriesNow();
         placesChangeAtGreaterNumbers();
         sameOrAlmostTheSame();
@@ -43,6 +44,22 @@ public final class MakingBoundaryTest {
                 DUE.is("operation of " + operation + " with a variable at b",
                     x.operation(x.term(operation, 1, 3, 2)), operation);
             }
+        }
+    }
+
+    private static void choicesOfConstantsButOne() {
+        DUE.by("1. All operands are constants: the constant that results");
+        for (int holds = 0; holds < 2; holds++) {
+            PathSolver x = new PathSolver();
+            int a = x.constant(1, holds);
+            int five = x.constant(8, 5);
+            int six = x.constant(8, 6);
+            int v = x.variable(3, false);
+            DUE.is("a choice of three constants", x.term(16, a, five, six), holds == 1 ? five : six);
+            DUE.is("with a variable at b", x.term(16, a, v, six), holds == 1 ? v : six);
+            DUE.is("with a variable at c", x.term(16, a, five, v), holds == 1 ? five : v);
+            int bit = x.term(19, v, 1, 0);
+            DUE.is("with a bit at a", x.operation(x.term(16, bit, five, six)), 16);
         }
     }
 

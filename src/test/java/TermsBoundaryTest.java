@@ -14,6 +14,8 @@ public final class TermsBoundaryTest {
         upperBitsOfSignedOnes();
         tablesAtFirst();
         lateEntries();
+        entriesWithSixtyFourTerms();
+        entriesOfBothTables();
         orderOfModels();
         fiveHundredAndTwelveCalls();
         DUE.end();
@@ -60,6 +62,53 @@ public final class TermsBoundaryTest {
         DUE.is("check()", x.check(), 1);
         DUE.is("its value", x.value(condition), -1);
         DUE.is("term 64 has none", x.value(64), PathSolver.NONE);
+        DUE.is("flip(0): it can't fail", x.flip(0), 0);
+        PathSolver y = new PathSolver();
+        sixtyThree(y);
+        int never = y.term(14, 2, 1, 0);
+        DUE.is("one that can't hold", never, 63);
+        y.take(never);
+        DUE.is("check() of it", y.check(), 0);
+        DUE.is("flip(0) of it", y.flip(0), 1);
+    }
+
+    private static void entriesWithSixtyFourTerms() {
+        DUE.by("TABLE entries that are set after a TERM of 20 was made count for it");
+        PathSolver x = new PathSolver();
+        x.variable(3, false);
+        for (int i = 1; i < 62; i++) {
+            x.constant(16, i);
+        }
+        int bit = x.term(19, x.term(20, 0, 1, 0), 1, 0);
+        DUE.is("the 64th term", bit, 63);
+        x.take(bit);
+        DUE.is("check()", x.check(), 0);
+        DUE.is("entry(1, 7, 1)", x.entry(1, 7, 1), 0);
+        DUE.is("check()", x.check(), 1);
+        DUE.is("model(0)", x.model(0), 7);
+        DUE.is("entry(0, 7, 0)", x.entry(0, 7, 0), 0);
+        DUE.is("check()", x.check(), 1);
+    }
+
+    /** A condition of both tables: an entry of either counts for it. */
+    private static void entriesOfBothTables() {
+        DUE.by("TABLE entries that are set after a TERM of 20 was made count for it");
+        for (int t = 0; t < 2; t++) {
+            PathSolver x = new PathSolver();
+            x.variable(3, false);
+            int sum = x.term(5, x.term(20, 0, t, 0), x.term(20, 0, 1 - t, 0), 0);
+            int deeper = x.term(20, sum, 1 - t, 0);
+            x.take(x.term(13, deeper, x.constant(8, 9), 0));
+            DUE.is("check()", x.check(), 0);
+            x.entry(1 - t, 3, 9);
+            DUE.is("check(): 0 at all places but 3", x.check(), 0);
+            x.entry(t, 5, 3);
+            DUE.is("check() with an entry of table " + t, x.check(), 1);
+            DUE.is("model(0)", x.model(0), 5);
+            x.entry(1 - t, 1, 3);
+            DUE.is("check() with an entry of table " + (1 - t), x.check(), 1);
+            DUE.is("model(0)", x.model(0), 1);
+        }
     }
 
     private static void conditionsHold() {
