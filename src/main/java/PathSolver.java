@@ -286,11 +286,11 @@ public final class PathSolver {
         }
 
         static long divided(int operation, int width, long x, long y) {
-            if (y == 0) {
-                return operation == QUOTIENT ? -1 : x;
-            }
             long dividend = Width.readPlain(width, x);
             long divisor = Width.readPlain(width, y);
+            if (divisor == 0) {
+                return operation == QUOTIENT ? -1 : x;
+            }
             long result = operation == QUOTIENT ? dividend / divisor : dividend % divisor;
             return Width.readSigned(width, result);
         }

@@ -7,6 +7,7 @@ public final class CostBoundaryTest {
         fillerGivesEveryCost();
         upToFourHundred();
         costsOfNothing();
+        newWidthsCostNothing();
         whatIsThereCostsNothing();
         constantsCostNothing();
         DUE.end();
@@ -105,6 +106,24 @@ public final class CostBoundaryTest {
         DUE.is("the constant 1 of the same", x.term(13, 1, 1, 0), next + 7);
         DUE.is("a variable", x.variable(1, false), next + 8);
         DUE.is("the cost", x.count(1), 400);
+    }
+
+    private static void newWidthsCostNothing() {
+        DUE.by("17, 18, 19 and constants 0");
+        for (int w : WIDTHS) {
+            for (int to : WIDTHS) {
+                PathSolver x = withCost(400, w).make();
+                int a = operand(x, 1, w);
+                int next = x.count(0);
+                if (to > w) {
+                    DUE.is("SIGN WIDEN from " + w + " to " + to, x.term(18, a, to, 0), next);
+                    DUE.is("WIDEN from " + w + " to " + to, x.term(17, a, to, 0), next + 1);
+                } else if (to < w && (w > 8 || to > 1)) {
+                    DUE.is("CUT from " + w + " to " + to, x.term(19, a, to, 0), next);
+                }
+                DUE.is("the cost", x.count(1), 400);
+            }
+        }
     }
 
     private static void whatIsThereCostsNothing() {

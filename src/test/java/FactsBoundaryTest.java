@@ -14,6 +14,7 @@ public final class FactsBoundaryTest {
         sixtyFourTerms();
         whatIsCounted();
         countsAtTheirEnds();
+        checksOfAllCalls();
         DUE.end();
     }
 
@@ -199,5 +200,27 @@ public final class FactsBoundaryTest {
             DUE.is("those that were FEASIBLE", x.count(4), i);
             DUE.is("those that were not", x.count(5), i);
         }
+    }
+
+    /** As many checks as 512 calls can make, of both kinds. */
+    private static void checksOfAllCalls() {
+        DUE.by("4: checks (check, and flip, counted also inside search) that were FEASIBLE; "
+            + "5: those that were not.");
+        PathSolver x = new PathSolver();
+        x.constant(1, 1);
+        for (int i = 0; i < 16; i++) {
+            x.take(0);
+        }
+        for (int i = 1; i <= 400; i++) {
+            DUE.is("search(16) of what can't fail", x.search(16), -1);
+        }
+        DUE.is("those that were not", x.count(5), 16 * 400);
+        DUE.is("those that were FEASIBLE", x.count(4), 0);
+        PathSolver y = new PathSolver();
+        for (int i = 1; i <= 500; i++) {
+            DUE.is("check()", y.check(), 1);
+        }
+        DUE.is("those that were FEASIBLE", y.count(4), 500);
+        DUE.is("those that were not", y.count(5), 0);
     }
 }

@@ -9,6 +9,7 @@ public final class OperationBoundaryTest {
     public static void main(String[] args) {
         for (int w : WIDTHS) {
             readWithSign(w);
+            eachBit(w);
             wrapAround(w);
             moves(w);
             comparisons(w);
@@ -63,6 +64,23 @@ public final class OperationBoundaryTest {
         DUE.is("all ones of width " + w, x.value(x.constant(w, -1)), -1);
     }
 
+    /** Rows of bits in which all four pairs of bits meet, at the low end, at the top and between. */
+    private static void eachBit(int w) {
+        DUE.by("0 NOT a (each bit). .. 2 AND 3 OR 4 XOR (each bit).");
+        long[] rows = {0, -1, 0x5555555555555555L, 0x3333333333333333L, 0x0f0f0f0f0f0f0f0fL,
+            0x00ff00ff00ff00ffL, 0x123456789abcdef0L, 1, 1L << (w - 1), (1L << (w - 1)) - 1};
+        for (long row : rows) {
+            long a = read(w, BigInteger.valueOf(row));
+            CASES.ofOne(0, w, a, 0, read(w, BigInteger.valueOf(~a)));
+            for (long other : rows) {
+                long b = read(w, BigInteger.valueOf(other));
+                CASES.ofTwo(2, w, a, b, read(w, BigInteger.valueOf(a & b)));
+                CASES.ofTwo(3, w, a, b, read(w, BigInteger.valueOf(a | b)));
+                CASES.ofTwo(4, w, a, b, read(w, BigInteger.valueOf(a ^ b)));
+            }
+        }
+    }
+
     /** NEG, ADD and SUB at both ends of the width, on this side of them and past them. */
     private static void wrapAround(int w) {
         DUE.by("results taken modulo 2^w, of WIDTH w, if nothing else is said");
@@ -88,6 +106,7 @@ public final class OperationBoundaryTest {
         DUE.by("7 MUL (w 1, 8 or 16)");
         long[][] rows = {
             {1, 0, 0, 0}, {1, 0, -1, 0}, {1, -1, -1, -1},
+            {8, 0, 0, 0}, {8, 7, 0, 0}, {8, -1, 0, 0}, {16, 0, 0, 0}, {16, 7, 0, 0}, {16, -1, 0, 0},
             {8, 15, 17, -1}, {8, 16, 16, 0}, {8, 1, 127, 127}, {8, 2, 63, 126}, {8, 2, 64, -128},
             {8, 2, -128, 0}, {8, -1, -1, 1}, {8, -128, -128, 0}, {8, -128, -1, -128},
             {8, 127, 127, 1},
