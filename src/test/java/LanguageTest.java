@@ -103,7 +103,8 @@ public final class LanguageTest {
             DUE.holds("it is short: " + lines.get(i), isShort);
             boolean constructor = Character.isUpperCase(head.group(4).charAt(0));
             String body = String.join("\n", lines.subList(i, i + length));
-            DUE.holds("it makes no objects: " + lines.get(i), constructor || !body.contains("new "));
+            DUE.holds("it makes no objects: " + lines.get(i),
+                constructor || !body.contains("new "));
             found += constructor ? 0 : 1;
         }
         int declared = 0;

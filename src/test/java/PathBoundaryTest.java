@@ -13,6 +13,7 @@ public final class PathBoundaryTest {
         howManyAreLeft();
         emptyPath();
         roomAfterBack();
+        differentOnesAskedAtOnce();
         DUE.end();
     }
 
@@ -152,5 +153,35 @@ public final class PathBoundaryTest {
         DUE.is("model(0)", x.model(0), 15);
         DUE.is("flip(15)", x.flip(15), 1);
         DUE.is("model(0)", x.model(0), 14);
+    }
+
+    /** "0 is below v", "1 is below v", .. : the next call is the first that asks about them. */
+    private static PathSolver rising(int length) {
+        PathSolver x = new PathSolver();
+        x.variable(8, false);
+        for (int i = 0; i < length; i++) {
+            x.take(x.term(14, x.constant(8, i), 0, 0));
+        }
+        return x;
+    }
+
+    private static void differentOnesAskedAtOnce() {
+        DUE.by("THE PATH is a row of at most 16 CONDITIONS.");
+        for (int length = 1; length <= 16; length++) {
+            PathSolver x = rising(length);
+            DUE.is("check() of " + length, x.check(), 1);
+            DUE.is("model(0)", x.model(0), length);
+            DUE.is("follows()", x.follows(), length);
+            PathSolver y = rising(length);
+            DUE.is("search(16) of " + length, y.search(16), length - 1);
+            DUE.is("model(0)", y.model(0), length - 1);
+            DUE.is("follows()", y.follows(), length - 1);
+            for (int k = 0; k < length; k++) {
+                PathSolver z = rising(length);
+                DUE.is("flip(" + k + ") of " + length, z.flip(k), 1);
+                DUE.is("model(0)", z.model(0), k);
+                DUE.is("follows()", z.follows(), k);
+            }
+        }
     }
 }
